@@ -1,0 +1,150 @@
+/** The sums and the deltas of the section 'Terms', seen through count (promise 17). */
+public final class SumsTest {
+    public static void main(String[] args) {
+        firstAttempt();
+        secondAttempt();
+        goingThrough();
+        digest();
+        Check.finish();
+    }
+
+    /** A session that waits for its first signature to be delivered. */
+    private static TreeCarrier signed(int block, int[] source, int[] target) {
+        TreeCarrier x = new TreeCarrier();
+        Check.fill(x, 0, 0, source);
+        Check.fill(x, 1, 0, target);
+        Check.due("begin", x.begin(block, false), true);
+        Check.deliver(x, 1, Check.ENTRY, Check.END);
+        return x;
+    }
+
+    private static void first(String what, int[] source, int[] target, boolean same) {
+        TreeCarrier x = signed(source.length, source, target);
+        Check.deliver(x, 0, Check.SIGNATURE);
+        Check.dueCounts(what, x, same ? 0 : source.length, same ? 1 : 0);
+    }
+
+    private static void firstAttempt() {
+        first("the same", new int[] {9, 8, 7}, new int[] {9, 8, 7}, true);
+        first("one byte, 16 apart", new int[] {3}, new int[] {243}, true);
+        first("one byte, 8 apart", new int[] {3}, new int[] {11}, false);
+        first("only the plain sum differs",
+                new int[] {138, 77}, new int[] {206, 229}, false);
+        first("only the plain sum differs",
+                new int[] {131, 74, 137}, new int[] {62, 99, 150}, false);
+        first("only the weighted sum differs",
+                new int[] {137, 253}, new int[] {145, 5}, false);
+        first("only the weighted sum differs",
+                new int[] {255, 31, 160, 206}, new int[] {178, 234, 229, 219}, false);
+        first("only strong mod 4 differs",
+                new int[] {231, 50, 195}, new int[] {103, 114, 243}, false);
+        first("only strong mod 4 differs",
+                new int[] {93, 187, 54, 39}, new int[] {211, 147, 180, 235}, false);
+        first("strong differs, not mod 4",
+                new int[] {42, 239}, new int[] {202, 95}, true);
+        first("strong differs, not mod 4",
+                new int[] {123, 17, 60, 182}, new int[] {113, 42, 200, 107}, true);
+    }
+
+    private static void secondAttempt() {
+        TreeCarrier x = signed(2, new int[] {42, 239}, new int[] {202, 95});
+        Check.deliver(x, 0, Check.SIGNATURE);
+        Check.deliver(x, 1, Check.DELTA);
+        Check.due("open after a repeat", x.on(), true);
+        Check.due("a repeat's signature", x.waiting(0), 1);
+        Check.deliver(x, 0, Check.SIGNATURE);
+        Check.dueCounts("all of strong differs", x, 2, 1, 1, 0, 0);
+        Check.deliver(x, 1, Check.DELTA);
+        Check.dueCounts("all of strong differs", x, 2, 1, 1, 0, 1, 0, 0, 1);
+        Check.dueFile("mended by the repeat", x, 1, 0, 42, 239);
+
+        // These rows agree in all sums but the digest.
+        x = signed(3, new int[] {4, 0, 0}, new int[] {0, 120, 124});
+        Check.deliver(x, 0, Check.SIGNATURE);
+        Check.deliver(x, 1, Check.DELTA);
+        Check.deliver(x, 0, Check.SIGNATURE);
+        Check.dueCounts("all sums agree", x, 0, 2, 1, 0, 0);
+        Check.deliver(x, 1, Check.DELTA);
+        Check.dueCounts("all sums agree", x, 0, 2, 1, 1, 1, 0, 0, 0);
+        Check.dueFile("a failure leaves the old file", x, 1, 0, 0, 120, 124);
+        Check.due("a failure leaves the old time", x.time(1, 0), 6);
+    }
+
+    private static void carried(String what, int block, int[] source, int[] target, int... counts) {
+        TreeCarrier x = signed(block, source, target);
+        Check.carry(x);
+        Check.dueCounts(what, x, counts);
+        Check.dueFile(what, x, 1, 0, source);
+        Check.due(what + ": time", x.time(1, 0), source.length);
+    }
+
+    private static void goingThrough() {
+        carried("no target", 2, new int[] {1, 2, 3}, new int[] {}, 3, 0, 0, 0, 1);
+        carried("the rest is in no block", 2,
+                new int[] {1, 2, 3}, new int[] {1, 2, 3}, 1, 1, 0, 0, 1);
+        carried("target shorter than a block", 4,
+                new int[] {1, 2, 3}, new int[] {1, 2, 3}, 3, 0, 0, 0, 1);
+        carried("shifted by a literal", 3,
+                new int[] {9, 1, 2, 3, 4, 5, 6}, new int[] {1, 2, 3, 4, 5, 6}, 1, 2, 0, 0, 1);
+        carried("blocks turned round", 2,
+                new int[] {3, 4, 1, 2, 1, 2}, new int[] {1, 2, 3, 4}, 0, 3, 0, 0, 1);
+        carried("from each place on, greedily", 2,
+                new int[] {7, 7, 7, 7, 7}, new int[] {7, 7}, 1, 2, 0, 0, 1);
+        carried("a block that starts at no multiple is not told", 2,
+                new int[] {2, 3}, new int[] {1, 2, 3, 4}, 2, 0, 0, 0, 1);
+        carried("block 8", 8,
+                new int[] {0, 1, 2, 3, 4, 5, 6, 7, 8}, new int[] {0, 1, 2, 3, 4, 5, 6, 7},
+                1, 1, 0, 0, 1);
+        lowestBlock();
+        fortyBytes();
+    }
+
+    private static void lowestBlock() {
+        // Both blocks have the sums of the source's byte; only the lowest is the byte itself.
+        carried("the lowest is right", 1, new int[] {16}, new int[] {16, 32}, 0, 1, 0, 0, 1);
+        carried("the lowest is wrong", 1, new int[] {16}, new int[] {32, 16}, 0, 2, 1, 0, 1);
+    }
+
+    private static void fortyBytes() {
+        // The plain sums of the source's blocks are 12 to 16 mod 16, those of the other's are 8.
+        int[] source = new int[40];
+        int[] target = new int[40];
+        for (int i = 0; i < 40; i++) {
+            source[i] = i % 8 == 0 ? i / 8 : 100;
+            target[i] = 201;
+        }
+        carried("forty literals", 8, source, target, 40, 0, 0, 0, 1);
+        carried("five copies", 8, source, source, 0, 5, 0, 0, 1);
+    }
+
+    private static void digest() {
+        // Two rows with the same digest: the target becomes the other one under way.
+        TreeCarrier x = signed(1, new int[] {5, 61, 215, 22}, new int[] {5, 61, 215, 22});
+        Check.deliver(x, 0, Check.SIGNATURE);
+        int[] other = {25, 180, 237, 17};
+        for (int i = 0; i < other.length; i++) {
+            Check.due("set", x.set(1, 0, i, other[i]), true);
+        }
+        Check.deliver(x, 1, Check.DELTA);
+        Check.dueCounts("same digest", x, 0, 4, 0, 0, 1, 0, 0, 1);
+        Check.dueFile("same digest", x, 1, 0, other);
+        Check.due("same digest: time", x.time(1, 0), 4);
+
+        // A row with the digest of the empty one: a target file of no bytes comes to be.
+        int[] asEmpty = {255, 187, 231, 0, 0, 95};
+        x = signed(6, asEmpty, asEmpty);
+        Check.deliver(x, 0, Check.SIGNATURE);
+        Check.due("remove", x.remove(1, 0), true);
+        Check.deliver(x, 1, Check.DELTA);
+        Check.dueCounts("digest of the empty row", x, 0, 1, 0, 0, 1, 0, 0, 1);
+        Check.dueFile("a file of no bytes", x, 1, 0);
+        Check.due("a file of no bytes: time", x.time(1, 0), 6);
+        x.begin(6, false);
+        Check.deliver(x, 1, Check.ENTRY, Check.END);
+        Check.due("same time, other size: not skipped", x.count(Check.SKIPPED), 0);
+        Check.due("same time, other size: open", x.waiting(0), 1);
+        Check.due("crash", x.crash(), true);
+        Check.due("remove of a file of no bytes", x.remove(1, 0), true);
+        Check.dueNoFile("removed", x, 1, 0);
+    }
+}
