@@ -1,6 +1,5 @@
 import java.util.ArrayDeque;
 import java.util.ArrayList;
-import java.util.Arrays;
 import java.util.LinkedHashMap;
 import java.util.List;
 import java.util.Map;
@@ -300,10 +299,5 @@ final class Model {
 
     int count(int kind) {
         return in(0, kind, 7) ? counts[kind] : -1;
-    }
-
-    @Override
-    public String toString() {
-        return trees + " " + list + " " + open + " " + Arrays.toString(counts);
     }
 }

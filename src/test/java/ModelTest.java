@@ -2,9 +2,9 @@ import java.util.ArrayList;
 import java.util.List;
 import java.util.Random;
 
-/** Long mixed runs of calls, each answer and the whole state compared with the model's. */
+/** Runs of as many calls as the document allows, each answer compared with the model's. */
 public final class ModelTest {
-    private static final int RUNS = 6000;
+    private static final int RUNS = 20000;
     private static final int CALLS = 512;
     private static final int[] EDGES = {-1, 0, 1, 2, 5, 6, 7, 8, 9, 11, 12, 13, 15, 16, 39, 40, 41,
         255, 256, Integer.MIN_VALUE, Integer.MAX_VALUE};
@@ -38,7 +38,7 @@ public final class ModelTest {
                 System.exit(1);
             }
             for (int kind = 0; kind < 8; kind++) {
-                seen[kind] += test.real.count(kind);
+                seen[kind] += test.model.count(kind);
             }
         }
         for (int kind = 0; kind < 8; kind++) {
@@ -51,7 +51,7 @@ public final class ModelTest {
 
     private boolean run() {
         for (int i = 0; i < CALLS; i++) {
-            if (!(i < 60 ? fill() : call()) || !sameState()) {
+            if (!(i < 60 ? fill() : random.nextInt(3) == 0 ? look() : call())) {
                 return false;
             }
         }
@@ -144,33 +144,39 @@ public final class ModelTest {
                 real.set(tree, name, place, c), model.set(tree, name, place, c));
     }
 
-    private boolean sameState() {
-        boolean same = real.on() == model.on() && real.journal() == model.journal();
-        for (int line = -1; line <= 2; line++) {
-            same &= real.waiting(line) == model.waiting(line);
-            same &= real.next(line) == model.next(line);
+    private boolean look() {
+        int line = number(random.nextInt(2));
+        int kind = number(random.nextInt(8));
+        int name = name();
+        switch (random.nextInt(10)) {
+            case 0:
+                return said("on()", real.on(), model.on());
+            case 1:
+                return said("journal()", real.journal(), model.journal());
+            case 2:
+                return said("waiting(" + line + ")", real.waiting(line), model.waiting(line));
+            case 3:
+                return said("next(" + line + ")", real.next(line), model.next(line));
+            case 4:
+                return said("count(" + kind + ")", real.count(kind), model.count(kind));
+            case 5:
+                return said("selected(" + name + ")", real.selected(name), model.selected(name));
+            default:
+                return lookAtFile(number(random.nextInt(4) == 0 ? 0 : 1), name);
         }
-        for (int kind = -1; kind <= 8; kind++) {
-            same &= real.count(kind) == model.count(kind);
-        }
-        for (int name = -1; name <= 12; name++) {
-            same &= real.selected(name) == model.selected(name);
-            for (int tree = -1; tree <= 2; tree++) {
-                same &= sameFile(tree, name);
-            }
-        }
-        if (!same) {
-            calls.add("another state, due is " + model);
-        }
-        return same;
     }
 
-    private boolean sameFile(int tree, int name) {
-        boolean same = real.size(tree, name) == model.size(tree, name)
-                && real.time(tree, name) == model.time(tree, name);
-        for (int place = -1; place <= model.size(tree, name); place++) {
-            same &= real.at(tree, name, place) == model.at(tree, name, place);
+    private boolean lookAtFile(int tree, int name) {
+        int place = number(random.nextInt(Math.max(1, model.size(tree, name))));
+        String which = "(" + tree + ", " + name;
+        switch (random.nextInt(4)) {
+            case 0:
+                return said("size" + which + ")", real.size(tree, name), model.size(tree, name));
+            case 1:
+                return said("time" + which + ")", real.time(tree, name), model.time(tree, name));
+            default:
+                return said("at" + which + ", " + place + ")", real.at(tree, name, place),
+                        model.at(tree, name, place));
         }
-        return same;
     }
 }

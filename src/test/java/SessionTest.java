@@ -505,7 +505,7 @@ public final class SessionTest {
         for (int name = 0; name < 12; name++) {
             Check.fill(x, 0, name, name, 2);
         }
-        for (int session = 1; session <= 8; session++) {
+        for (int session = 1; session <= 3; session++) {
             x.begin(1, false);
             Check.due("the longest line", x.waiting(1), 13);
             for (int i = 0; i < 12; i++) {
@@ -520,7 +520,7 @@ public final class SessionTest {
             Check.carry(x);
             Check.due("sessions", x.count(Check.COMPLETE), session);
             Check.due("records", x.count(Check.DONE), 12 * session);
-            for (int name = 0; name < 12 && session < 8; name++) {
+            for (int name = 0; name < 12; name++) {
                 Check.dueFile("name " + name, x, 1, name, name, 2);
                 x.remove(1, name);
             }

@@ -44,6 +44,10 @@ public final class SumsTest {
                 new int[] {42, 239}, new int[] {202, 95}, true);
         first("strong differs, not mod 4",
                 new int[] {123, 17, 60, 182}, new int[] {113, 42, 200, 107}, true);
+        first("strong differs mod 8, not mod 4",
+                new int[] {117, 191, 30, 57}, new int[] {60, 24, 39, 80}, true);
+        first("strong differs mod 4 if no 1 is added, but one is",
+                new int[] {87, 168, 247}, new int[] {60, 238, 28}, true);
     }
 
     private static void secondAttempt() {
@@ -130,9 +134,14 @@ public final class SumsTest {
         Check.dueFile("same digest", x, 1, 0, other);
         Check.due("same digest: time", x.time(1, 0), 4);
 
+        digestOfTheEmptyRow();
+        partOfABlock();
+    }
+
+    private static void digestOfTheEmptyRow() {
         // A row with the digest of the empty one: a target file of no bytes comes to be.
         int[] asEmpty = {255, 187, 231, 0, 0, 95};
-        x = signed(6, asEmpty, asEmpty);
+        TreeCarrier x = signed(6, asEmpty, asEmpty);
         Check.deliver(x, 0, Check.SIGNATURE);
         Check.due("remove", x.remove(1, 0), true);
         Check.deliver(x, 1, Check.DELTA);
@@ -146,5 +155,19 @@ public final class SumsTest {
         Check.due("crash", x.crash(), true);
         Check.due("remove of a file of no bytes", x.remove(1, 0), true);
         Check.dueNoFile("removed", x, 1, 0);
+    }
+
+    private static void partOfABlock() {
+        // The first six bytes leave the digest as it starts, so that the last two alone have the
+        // digest of all: a copy of the block of eight takes the two that are there.
+        int[] row = {255, 187, 231, 0, 0, 95, 7, 9};
+        TreeCarrier x = signed(8, row, row);
+        Check.deliver(x, 0, Check.SIGNATURE);
+        Check.due("remove", x.remove(1, 0), true);
+        Check.fill(x, 1, 0, 7, 9);
+        Check.deliver(x, 1, Check.DELTA);
+        Check.dueCounts("a part of a block", x, 0, 1, 0, 0, 1, 0, 0, 1);
+        Check.dueFile("a part of a block", x, 1, 0, 7, 9);
+        Check.due("a part of a block: time", x.time(1, 0), 8);
     }
 }
