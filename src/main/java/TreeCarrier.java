@@ -462,7 +462,7 @@ public final class TreeCarrier {
         }
 
         int byteAt(int place) {
-            return holds(place) ? bytes[place] : -1;
+            return place >= 0 && place < length ? bytes[place] : -1;
         }
 
         void clear() {
@@ -470,7 +470,7 @@ public final class TreeCarrier {
         }
 
         void append(int c) {
-            if (!isFull()) {
+            if (length < FILE_LIMIT) {
                 bytes[length] = c;
                 length++;
             }
@@ -492,8 +492,10 @@ public final class TreeCarrier {
         }
 
         void become(Row other) {
-            clear();
-            appendPart(other, 0, other.length);
+            length = other.length;
+            for (int i = 0; i < length; i++) {
+                bytes[i] = other.bytes[i];
+            }
         }
 
         /** Both sums of a part in one number, as a signature of that attempt tells them. */

@@ -1,3 +1,5 @@
+import java.util.Arrays;
+
 /** The sums and the deltas of the section 'Terms', seen through count (promise 17). */
 public final class SumsTest {
     public static void main(String[] args) {
@@ -5,6 +7,12 @@ public final class SumsTest {
         secondAttempt();
         goingThrough();
         digest();
+        weakWraps();
+        strongWraps();
+        digestWraps();
+        blocksOfEveryLength();
+        endOfTheSource();
+        shortEndOfTheTarget();
         Check.finish();
     }
 
@@ -169,5 +177,150 @@ public final class SumsTest {
         Check.dueCounts("a part of a block", x, 0, 1, 0, 0, 1, 0, 0, 1);
         Check.dueFile("a part of a block", x, 1, 0, 7, 9);
         Check.due("a part of a block: time", x.time(1, 0), 8);
+    }
+
+    private static int[] row(int many, int c) {
+        int[] bytes = new int[many];
+        Arrays.fill(bytes, c);
+        return bytes;
+    }
+
+    private static void weakWraps() {
+        first("0 and 16: both sums mod 16 are 0", row(1, 0), row(1, 16), true);
+        first("0 and 240", row(1, 0), row(1, 240), true);
+        first("15 and 255: both sums mod 16 are 15", row(1, 15), row(1, 255), true);
+        first("0 and 15", row(1, 0), row(1, 15), false);
+        first("15 and 16", row(1, 15), row(1, 16), false);
+        first("0 and 255", row(1, 0), row(1, 255), false);
+        first("eight bytes 15 and 239", row(8, 15), row(8, 239), true);
+        first("eight bytes 16 and 240", row(8, 16), row(8, 240), true);
+        first("eight bytes 255 and themselves", row(8, 255), row(8, 255), true);
+        first("eight bytes 255 and 15: strong mod 4 differs", row(8, 255), row(8, 15), false);
+        first("eight bytes 0 and 16: strong mod 4 differs", row(8, 0), row(8, 16), false);
+    }
+
+    /** Attempt 1 copies a wrong block; again tells whether attempt 2 does so, too. */
+    private static void attempts(String what, int[] source, int[] target, boolean again) {
+        TreeCarrier x = signed(source.length, source, target);
+        Check.deliver(x, 0, Check.SIGNATURE);
+        Check.dueCounts(what + ", attempt 1", x, 0, 1, 0, 0, 0);
+        Check.deliver(x, 1, Check.DELTA);
+        Check.deliver(x, 0, Check.SIGNATURE);
+        Check.dueCounts(what + ", attempt 2", x, again ? 0 : source.length, again ? 2 : 1, 1, 0, 0);
+        Check.deliver(x, 1, Check.DELTA);
+        Check.dueCounts(what + ", concluded", x, again ? 0 : source.length, again ? 2 : 1, 1,
+                again ? 1 : 0, 1, 0, 0, again ? 0 : 1);
+        Check.dueFile(what, x, 1, 0, again ? target : source);
+        Check.due(what + ": time", x.time(1, 0), again ? 2 * source.length : source.length);
+    }
+
+    private static void strongWraps() {
+        // Without mod 65521 these differ, by a multiple of it.
+        attempts("strong 0 (65521 and 5 * 65521)",
+                new int[] {0, 28, 245, 234}, new int[] {2, 243, 113, 213}, true);
+        attempts("strong 65520 (the largest)",
+                new int[] {0, 28, 245, 233}, new int[] {2, 243, 113, 212}, true);
+        attempts("strong 1", new int[] {0, 28, 245, 235}, new int[] {2, 243, 113, 214}, true);
+        attempts("strong wraps with eight bytes",
+                new int[] {52, 39, 171, 50, 123, 85, 67, 207},
+                new int[] {91, 65, 57, 203, 241, 147, 206, 8}, true);
+        // And these agree mod 65536, or mod 4 only.
+        attempts("strong does not wrap at 65536",
+                new int[] {150, 161, 221, 246}, new int[] {75, 36, 72, 19}, false);
+        attempts("strong does not wrap at 65536 with eight bytes",
+                new int[] {132, 173, 123, 87, 34, 91, 208, 76},
+                new int[] {244, 165, 234, 120, 89, 44, 106, 146}, false);
+        attempts("strong 1 and 17", row(1, 0), row(1, 16), false);
+        first("strong is taken mod 65521 before mod 4",
+                new int[] {7, 6, 86, 222}, new int[] {202, 126, 109, 92}, false);
+        first("strong is taken mod 65521 before mod 4, eight bytes",
+                new int[] {206, 198, 27, 174, 76, 75, 116, 130},
+                new int[] {185, 241, 46, 128, 177, 156, 45, 216}, false);
+    }
+
+    /** The target's bytes become others between signature and delta. */
+    private static void changedUnderWay(String what, int[] row, int[] other, boolean sameDigest) {
+        TreeCarrier x = signed(1, row, row);
+        Check.deliver(x, 0, Check.SIGNATURE);
+        for (int i = 0; i < other.length; i++) {
+            Check.due("set", x.set(1, 0, i, other[i]), true);
+        }
+        Check.deliver(x, 1, Check.DELTA);
+        Check.due(what + ": repeats", x.count(Check.REPEATS), sameDigest ? 0 : 1);
+        Check.due(what + ": on", x.on(), !sameDigest);
+        Check.dueFile(what, x, 1, 0, other);
+        Check.due(what + ": time", x.time(1, 0), sameDigest ? row.length : 3 * row.length);
+    }
+
+    private static void digestWraps() {
+        changedUnderWay("the digest is an int",
+                new int[] {174, 239, 11, 93}, new int[] {138, 102, 149, 98}, true);
+        changedUnderWay("the digest is an int",
+                new int[] {121, 135, 86, 146}, new int[] {101, 240, 18, 153}, true);
+        changedUnderWay("the digest's lowest bit",
+                new int[] {214, 247, 176, 70}, new int[] {238, 253, 187, 222}, false);
+        changedUnderWay("the digest's highest bit",
+                new int[] {10, 91, 230, 2}, new int[] {200, 171, 227, 107}, false);
+    }
+
+    /** The same bytes on both sides: a copy for each full block, a literal for each byte behind. */
+    private static void blocksOfEveryLength() {
+        for (int block = 1; block <= 8; block++) {
+            for (int many = 1; many <= 40; many++) {
+                int[] bytes = new int[many];
+                for (int i = 0; i < many; i++) {
+                    bytes[i] = i * 7 % 256;
+                }
+                TreeCarrier x = signed(block, bytes, bytes);
+                Check.deliver(x, 0, Check.SIGNATURE);
+                Check.dueCounts(many + " bytes in blocks of " + block, x, many % block,
+                        many / block);
+            }
+        }
+    }
+
+    /** The first bytes 1, 2, .. of a row. */
+    private static int[] rising(int many) {
+        int[] bytes = new int[many];
+        for (int i = 0; i < many; i++) {
+            bytes[i] = i + 1;
+        }
+        return bytes;
+    }
+
+    /** A source with one byte less than a block, with just one, and with one more on each side. */
+    private static void endOfTheSource() {
+        for (int block = 2; block <= 8; block++) {
+            String what = "block of " + block;
+            int[] target = rising(block);
+            int[] longer = rising(block + 1);
+            longer[block] = 200;
+            int[] shifted = new int[block + 1];
+            shifted[0] = 200;
+            System.arraycopy(target, 0, shifted, 1, block);
+            carried(what + ", one byte less", block, rising(block - 1), target,
+                    block - 1, 0, 0, 0, 1);
+            carried(what + ", all of it", block, target, target, 0, 1, 0, 0, 1);
+            carried(what + ", a byte behind", block, longer, target, 1, 1, 0, 0, 1);
+            carried(what + ", a byte before", block, shifted, target, 1, 1, 0, 0, 1);
+        }
+    }
+
+    /** The bytes behind the last full block are told neither as they are nor filled up. */
+    private static void shortEndOfTheTarget() {
+        for (int block = 2; block <= 8; block++) {
+            String what = "one byte less than a block of " + block;
+            int[] target = rising(block - 1);
+            int[] filledUp = Arrays.copyOf(target, block);
+            carried(what, block, target, target, block - 1, 0, 0, 0, 1);
+            carried(what + ", filled up", block, filledUp, target, block, 0, 0, 0, 1);
+            int[] afterABlock = new int[2 * block - 1];
+            Arrays.fill(afterABlock, 100);
+            System.arraycopy(target, 0, afterABlock, block, block - 1);
+            carried(what + ", after a full one", block, target, afterABlock,
+                    block - 1, 0, 0, 0, 1);
+            carried(what + ", after a full one, filled up", block, filledUp, afterABlock,
+                    block, 0, 0, 0, 1);
+        }
     }
 }
