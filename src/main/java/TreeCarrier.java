@@ -324,20 +324,19 @@ public final class TreeCarrier {
     }
 
     private void fillDelta(Message delta, Row row, Message signature) {
-        int told = 0;
+        int copied = 0;
         for (int i = 0; i < row.length; i++) {
-            if (i < told) {
+            if (i < copied) {
                 continue;
             }
             int block = findBlock(row, i, signature);
             if (block == NO_BLOCK) {
                 delta.addItem(row.byteAt(i));
                 counts[LITERALS]++;
-                told = i + 1;
             } else {
                 delta.addItem(COPY_BASE + block);
                 counts[COPIES]++;
-                told = i + blockSize;
+                copied = i + blockSize;
             }
         }
     }

@@ -13,6 +13,7 @@ public final class SumsTest {
         blocksOfEveryLength();
         endOfTheSource();
         shortEndOfTheTarget();
+        noBlockFits();
         Check.finish();
     }
 
@@ -48,6 +49,10 @@ public final class SumsTest {
                 new int[] {231, 50, 195}, new int[] {103, 114, 243}, false);
         first("only strong mod 4 differs",
                 new int[] {93, 187, 54, 39}, new int[] {211, 147, 180, 235}, false);
+        first("plain and weighted sum differ, by the same",
+                new int[] {61, 180}, new int[] {253, 44}, false);
+        first("weak and strong mod 4 differ, by the same",
+                new int[] {201, 123}, new int[] {122, 105}, false);
         first("strong differs, not mod 4",
                 new int[] {42, 239}, new int[] {202, 95}, true);
         first("strong differs, not mod 4",
@@ -56,6 +61,10 @@ public final class SumsTest {
                 new int[] {117, 191, 30, 57}, new int[] {60, 24, 39, 80}, true);
         first("strong differs mod 4 if no 1 is added, but one is",
                 new int[] {87, 168, 247}, new int[] {60, 238, 28}, true);
+        first("strong differs mod 4 if 2 is added, but it is 1",
+                new int[] {181, 239, 29}, new int[] {202, 21, 18}, true);
+        first("strong differs mod 4, not if 2 is added",
+                new int[] {65, 29, 208}, new int[] {85, 117, 148}, false);
     }
 
     private static void secondAttempt() {
@@ -311,16 +320,32 @@ public final class SumsTest {
         for (int block = 2; block <= 8; block++) {
             String what = "one byte less than a block of " + block;
             int[] target = rising(block - 1);
-            int[] filledUp = Arrays.copyOf(target, block);
-            carried(what, block, target, target, block - 1, 0, 0, 0, 1);
-            carried(what + ", filled up", block, filledUp, target, block, 0, 0, 0, 1);
-            int[] afterABlock = new int[2 * block - 1];
-            Arrays.fill(afterABlock, 100);
+            int[] afterABlock = row(2 * block - 1, 100);
             System.arraycopy(target, 0, afterABlock, block, block - 1);
-            carried(what + ", after a full one", block, target, afterABlock,
-                    block - 1, 0, 0, 0, 1);
-            carried(what + ", after a full one, filled up", block, filledUp, afterABlock,
-                    block, 0, 0, 0, 1);
+            firstCounts(what, block, target, target, block - 1, 0);
+            firstCounts(what + ", after a full one", block, target, afterABlock, block - 1, 0);
+            for (int c = 0; c < 256; c++) {
+                int[] filledUp = Arrays.copyOf(target, block);
+                filledUp[block - 1] = c;
+                firstCounts(what + ", filled up with " + c, block, filledUp, target, block, 0);
+                firstCounts(what + ", after its like, filled up with " + c, block, filledUp,
+                        afterABlock, block, 0);
+            }
         }
+    }
+
+    private static void firstCounts(String what, int block, int[] source, int[] target,
+            int literals, int copies) {
+        TreeCarrier x = signed(block, source, target);
+        Check.deliver(x, 0, Check.SIGNATURE);
+        Check.dueCounts(what, x, literals, copies);
+    }
+
+    private static void noBlockFits() {
+        for (int block = 1; block <= 8; block++) {
+            firstCounts("an empty signature", block, row(40, 0), new int[] {}, 40, 0);
+        }
+        firstCounts("none of forty blocks", 1, row(40, 5), row(40, 6), 40, 0);
+        firstCounts("none of five blocks", 8, row(40, 5), row(40, 6), 40, 0);
     }
 }
