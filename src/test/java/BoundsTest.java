@@ -41,6 +41,7 @@ public final class BoundsTest {
         emptySignature();
         itemsOfADelta();
         deleting();
+        deletingWithNewRules();
         callLimit();
         Check.finish();
     }
@@ -426,6 +427,23 @@ public final class BoundsTest {
         due("deleted: a file that came under way", "put 0 3 1; begin 1 true; deliver 1 = 1;"
                 + " put 1 4 1; deliver 1 = 2; deliver 0; deliver 1 = 4; count 6 = 1;"
                 + " size 1 4 = -1; size 1 3 = 1");
+    }
+
+    private static void deletingWithNewRules() {
+        due("selected at the conclusion: a rule just before it", "put 0 3 1; put 1 4 1; put 1 5 1;"
+                + " begin 1 true; 2 * deliver 1; deliver 0 = 3; selected 4 = true;"
+                + " rule false 15 4 = true; selected 4 = false; deliver 1 = 4; on = false;"
+                + " count 6 = 1; size 1 4 = 1; size 1 5 = -1");
+        due("selected at the conclusion: a rule before the end", "put 1 4 1; begin 1 true;"
+                + " rule false 0 0 = true; deliver 1 = 2; count 4 = 1; count 6 = 0; size 1 4 = 1");
+        due("selected at the conclusion: a rule behind one that fits", "rule true 15 4 = true;"
+                + " put 1 4 1; put 1 5 1; begin 1 true; rule false 0 0 = true; deliver 1 = 2;"
+                + " count 6 = 1; size 1 4 = -1; size 1 5 = 1");
+        due("selected at the conclusion: a rule after it", "put 1 4 1; begin 1 true;"
+                + " deliver 1 = 2; rule false 0 0 = true; count 6 = 1; size 1 4 = -1");
+        due("a noted name that is selected no more is carried, not deleted", "put 0 3 1;"
+                + " put 1 3 2; begin 1 true; rule false 0 0 = true; 2 * deliver 1; deliver 0 = 3;"
+                + " deliver 1 = 4; count 6 = 0; at 1 3 0 = 1; time 1 3 = 1");
     }
 
     private static void callLimit() {
